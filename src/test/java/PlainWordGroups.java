@@ -241,7 +241,7 @@ final class PlainWordGroups {
             case 6: return pattern.length();
             case 7: return text.length();
             case 8: return history.size();
-            case 9: return (int) state.families.stream().flatMap(List::stream).filter(group -> !group.isEmpty()).count();
+            case 9: return (int) state.families.stream().flatMap(List::stream).filter(g -> !g.isEmpty()).count();
             default: return BAD;
         }
     }

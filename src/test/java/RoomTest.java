@@ -13,7 +13,8 @@ final class RoomTest {
     }
 
     private static long taken() {
-        return ((ThreadMXBean) ManagementFactory.getThreadMXBean()).getThreadAllocatedBytes(Thread.currentThread().getId());
+        ThreadMXBean threads = (ThreadMXBean) ManagementFactory.getThreadMXBean();
+        return threads.getThreadAllocatedBytes(Thread.currentThread().getId());
     }
 
     /** The room of a run is some 29 million bytes of fields; a run of changes may take a hundredth of it. */

@@ -145,6 +145,14 @@ final class TextAnswersTest {
         Checks.type(z, 1212);
         Checks.same("nothing is worth a match", z.total(4), 0);
         Checks.same("a weight of 0 is left out", z.total(5), 0);
+
+        WordGroups w = new WordGroups();
+        Checks.insert(w, 123412, 5);
+        Checks.type(w, 3, 123412, 123412);
+        Checks.same("matches, not asked for the weight before", w.total(5), 2);
+        Checks.same("weight of longest words", w.total(4), 10);
+        w.clear();
+        Checks.same("matches without a text", w.total(5), 0);
     }
 
     private static void fullText() {

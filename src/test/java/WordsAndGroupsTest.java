@@ -25,6 +25,9 @@ final class WordsAndGroupsTest {
         for (int what : new int[] {-1, 10, Integer.MIN_VALUE, Integer.MAX_VALUE}) {
             Checks.same("told(" + what + ")", x.told(what), WordGroups.BAD);
         }
+        Checks.remove(x, 11111);
+        Checks.same("told(5) after a removal", x.told(5), 1 + 3 + 4);
+        x.undo();
         Checks.weigh(x, 11111, -99);
         Checks.same("told(5) below 0", x.told(5), 1 + 3 + 4 - 99);
         x.rebuild();
@@ -92,8 +95,14 @@ final class WordsAndGroupsTest {
         // 12121 falls to 121 (no 2121), and 121212 to 1212.
         Checks.same("nodes", x.group(0, 1, 1), 10);
         Checks.same("failures", x.group(0, 1, 3), 0 + 1 + 2 + 3 + 3 + 4 + 0 + 1 + 2);
-        WordGroups y = Checks.withWords(111111);
-        Checks.same("failures of one letter", y.group(0, 0, 3), 0 + 1 + 2 + 3 + 4 + 5);
+        WordGroups v = Checks.withWords(1, 13, 3);
+        Checks.same("failures of a large group", v.group(0, 1, 3), 0);
+        Checks.same("failures of a small group after a large one", v.group(0, 0, 3), 0);
+        for (int code : new int[] {111111, 444444}) {
+            WordGroups y = Checks.withWords(code);
+            Checks.same("nodes of one letter", y.group(0, 0, 1), 7);
+            Checks.same("failures of one letter", y.group(0, 0, 3), 0 + 1 + 2 + 3 + 4 + 5);
+        }
         // A failure is a node of the same group alone.
         WordGroups z = Checks.withWords(2, 3, 12);
         Checks.same("failures beside another group", z.group(0, 0, 3), 0);
@@ -162,9 +171,11 @@ final class WordsAndGroupsTest {
         Checks.same("follow(0, 2, 0) without a text", x.follow(0, 2, 0), 0);
         Checks.same("follow(0, 2, 1) without a text", x.follow(0, 2, 1), WordGroups.NONE);
 
-        WordGroups y = Checks.withWords(111111);
-        Checks.type(y, 111111, 111111);
-        Checks.same("follow(0, 0, 12)", y.follow(0, 0, 12), 111111);
+        for (int code : new int[] {111111, 444444}) {
+            WordGroups y = Checks.withWords(code);
+            Checks.type(y, code, code);
+            Checks.same("follow(0, 0, 12)", y.follow(0, 0, 12), code);
+        }
     }
 
     private static void wrongGroups() {
