@@ -1,9 +1,5 @@
 /** Promises 7 to 11: the changes, and undo. */
 final class ChangesTest {
-    /** 25 words in ascending order, of 1 to 3 letters. */
-    private static final int[] WORDS = {1, 2, 3, 4, 11, 12, 13, 14, 21, 22, 23, 24, 31, 32, 33, 34, 41, 42, 43, 44,
-        111, 112, 113, 114, 121};
-
     public static void main(String[] args) {
         insert();
         insertRefused();
@@ -21,19 +17,11 @@ final class ChangesTest {
         Checks.end();
     }
 
-    private static WordGroups withManyWords(int count) {
-        WordGroups x = new WordGroups();
-        for (int k = 0; k < count; k++) {
-            Checks.insert(x, WORDS[k], k);
-        }
-        return x;
-    }
-
     private static void insert() {
         WordGroups x = new WordGroups();
         int[] groups = {0, 1, 0, 2, 0, 1, 0, 3, 0, 1, 0, 2, 0, 1, 0, 4, 0, 1, 0, 2, 0, 1, 0, 3};
         for (int k = 0; k < 24; k++) {
-            Checks.same("insert " + (k + 1), Checks.insert(x, WORDS[k], k - 12), groups[k]);
+            Checks.same("insert " + (k + 1), Checks.insert(x, Checks.WORDS[k], k - 12), groups[k]);
             Checks.same("told(0)", x.told(0), k + 1);
             Checks.same("told(1)", x.told(1), k + 1);
         }
@@ -65,7 +53,7 @@ final class ChangesTest {
         Checks.same("insert(highest)", x.insert(Integer.MAX_VALUE), WordGroups.BAD);
         Checks.same("told(0)", x.told(0), 2);
 
-        WordGroups y = withManyWords(24);
+        WordGroups y = Checks.withManyWords(24);
         Checks.same("a 25th word", Checks.insert(y, 121, 1), WordGroups.FULL);
         Checks.same("a 25th word, weight 100", y.insert(100), WordGroups.BAD);
         Checks.same("a live word of 24", Checks.insert(y, 1, 1), WordGroups.STATE);
@@ -78,7 +66,7 @@ final class ChangesTest {
     }
 
     private static void removeIntoGroups() {
-        WordGroups x = withManyWords(8);
+        WordGroups x = Checks.withManyWords(8);
         int costs = x.told(3);
         Checks.same("costs of 8 words", costs, 1 + 2 + 1 + 4 + 2 + 4 + 2 + 12);
         Checks.same("remove 4", Checks.remove(x, 4), 0);
@@ -106,7 +94,7 @@ final class ChangesTest {
     }
 
     private static void removeWithRebuilding() {
-        WordGroups x = withManyWords(8);
+        WordGroups x = Checks.withManyWords(8);
         for (int code : new int[] {4, 14, 11, 1}) {
             Checks.remove(x, code);
         }
@@ -191,7 +179,7 @@ final class ChangesTest {
         Checks.same("group(0, 1, 0)", y.group(0, 1, 0), 2);
         Checks.same("told(3)", y.told(3), (1 + 3 + 3) + 3 + 4 + 2 + 3);
 
-        WordGroups full = withManyWords(24);
+        WordGroups full = Checks.withManyWords(24);
         Checks.same("weigh one of 24", Checks.weigh(full, 24, 3), 111);
         Checks.same("told(0)", full.told(0), 24);
     }
@@ -239,12 +227,12 @@ final class ChangesTest {
     private static void rebuildIntoEachGroup() {
         int[] groups = {0, 1, 2, 2, 3, 3, 3, 3, 4, 4, 4, 4, 4, 4, 4, 4, 5, 5, 5, 5, 5, 5, 5, 5};
         for (int count = 1; count <= 24; count++) {
-            WordGroups x = withManyWords(count);
+            WordGroups x = Checks.withManyWords(count);
             x.rebuild();
             Checks.same("the group of " + count + " words", x.group(0, groups[count - 1], 0), count);
             Checks.same("told(9)", x.told(9), 1);
         }
-        WordGroups x = withManyWords(17);
+        WordGroups x = Checks.withManyWords(17);
         x.rebuild();
         Checks.same("insert beside the group 5", Checks.insert(x, 44, 1), 0);
         Checks.same("insert beside the group 5", Checks.insert(x, 43, 1), 1);
@@ -283,7 +271,7 @@ final class ChangesTest {
         String[] states = new String[21];
         for (int k = 0; k < 20; k++) {
             states[k] = Checks.state(x);
-            Checks.insert(x, WORDS[k], k);
+            Checks.insert(x, Checks.WORDS[k], k);
             Checks.same("told(8)", x.told(8), Math.min(k + 1, 8));
         }
         for (int k = 7; k >= 0; k--) {
@@ -300,7 +288,7 @@ final class ChangesTest {
     }
 
     private static void refusedCallsAreNoChanges() {
-        WordGroups x = withManyWords(24);
+        WordGroups x = Checks.withManyWords(24);
         String before = Checks.state(x);
         x.spell(1);
         x.insert(1);
