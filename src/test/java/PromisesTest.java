@@ -29,6 +29,7 @@ final class PromisesTest {
         wordMatches();
         group();
         groupAtMost();
+        groupAfterLarger();
         item();
         itemOrder();
         follow();
@@ -499,6 +500,25 @@ final class PromisesTest {
         }
     }
 
+    /** 14: of this group alone, also after a larger one was asked for. */
+    private static void groupAfterLarger() {
+        WordGroups x = Checks.withWords(1, 13, 3);
+        Checks.same("group(0, 1, 3)", x.group(0, 1, 3), 0);
+        Checks.same("group(0, 0, 3)", x.group(0, 0, 3), 0);
+        Checks.same("group(0, 0, 1)", x.group(0, 0, 1), 2);
+        WordGroups y = Checks.withWords(111111, 44, 1);
+        Checks.same("group(0, 1, 3)", y.group(0, 1, 3), 15 + 1);
+        Checks.same("group(0, 0, 3)", y.group(0, 0, 3), 0);
+        Checks.same("group(0, 2, 3) of an empty group", y.group(0, 2, 3), 0);
+        Checks.same("group(0, 2, 1) of an empty group", y.group(0, 2, 1), 0);
+        y.type();
+        Checks.same("follow(0, 0, 1)", y.follow(0, 0, 1), 1);
+        Checks.type(y, 111, 4);
+        Checks.same("follow(0, 0, 4)", y.follow(0, 0, 4), 1);
+        Checks.same("follow(0, 1, 4)", y.follow(0, 1, 4), 1111);
+        Checks.same("follow(0, 0, 5)", y.follow(0, 0, 5), 0);
+    }
+
     /** 15: "NONE if the group has not so many items; BAD if k is negative or another argument is out of range". */
     private static void item() {
         int[] sizes = {1, 2, 4, 8, 16};
@@ -656,6 +676,10 @@ final class PromisesTest {
         for (int i = 0; i < due.length; i++) {
             Checks.same("at(" + i + ", 4) under two matches", y.at(i, 4), due[i]);
         }
+        Checks.same("total(2) under two matches", y.total(2), 6);
+        Checks.type(y, 4);
+        Checks.same("at(8, 4), the last letter", y.at(8, 4), 1);
+        Checks.same("total(2) with the last letter", y.total(2), 7);
         Checks.remove(y, 123412);
         Checks.same("at(3, 4) under one match", y.at(3, 4), 1);
         Checks.same("at(2, 4) under none", y.at(2, 4), 0);

@@ -8,14 +8,18 @@ final class RandomRunsTest {
     private final Random random;
     private final int alphabet;
     private final int longest;
+    /** Whether the run is made with as many live words as there can be: it fills up, and then weighs above all. */
+    private final boolean crowded;
+    private int calls = 0;
     private final WordGroups x = new WordGroups();
     private final PlainWordGroups plain = new PlainWordGroups();
     private final StringBuilder told = new StringBuilder();
 
     private RandomRunsTest(long seed) {
         random = new Random(seed);
-        alphabet = 1 + random.nextInt(4);
-        longest = 1 + random.nextInt(6);
+        crowded = seed % 3 == 0;
+        alphabet = crowded ? 2 + random.nextInt(3) : 1 + random.nextInt(4);
+        longest = crowded ? 4 + random.nextInt(3) : 1 + random.nextInt(6);
     }
 
     public static void main(String[] args) {
@@ -26,7 +30,7 @@ final class RandomRunsTest {
     }
 
     private void run() {
-        for (int call = 0; call < CALLS && Checks.allHeld(); call++) {
+        while (calls < CALLS && Checks.allHeld()) {
             callOne();
         }
         if (!Checks.allHeld()) {
@@ -35,6 +39,10 @@ final class RandomRunsTest {
     }
 
     private void callOne() {
+        if (crowded && calls < 2 * 30) {
+            newWord();
+            return;
+        }
         int kind = random.nextInt(100);
         if (kind < 25) {
             pattern();
@@ -76,7 +84,15 @@ final class RandomRunsTest {
         return random.nextInt(3) == 0 ? number(-2, 2) : number(-99, 99);
     }
 
+    private void newWord() {
+        int code = code();
+        int weight = weight();
+        same("spell(" + code + ")", x.spell(code), plain.spell(code));
+        same("insert(" + weight + ")", x.insert(weight), plain.insert(weight));
+    }
+
     private void same(String call, int got, int due) {
+        calls++;
         told.append(' ').append(call);
         Checks.same(call, got, due);
     }
@@ -88,7 +104,7 @@ final class RandomRunsTest {
         } else if (kind < 4) {
             int letter = number(0, 3);
             same("write(" + letter + ")", x.write(letter), plain.write(letter));
-        } else if (kind < 10 && plain.told(0) > 0) {
+        } else if (kind < (crowded ? 17 : 10) && plain.told(0) > 0) {
             int code = plain.word(random.nextInt(plain.told(0)), 0);
             same("spell(" + code + ")", x.spell(code), plain.spell(code));
         } else {
@@ -106,7 +122,10 @@ final class RandomRunsTest {
     }
 
     private void change() {
-        int kind = random.nextInt(40);
+        int kind = random.nextInt(crowded && random.nextInt(8) > 0 ? 32 : 40);
+        if (crowded && random.nextBoolean()) {
+            kind = 31;
+        }
         if (kind < 20) {
             int weight = weight();
             same("insert(" + weight + ")", x.insert(weight), plain.insert(weight));
@@ -135,7 +154,7 @@ final class RandomRunsTest {
             family = 0;
             group = random.nextInt(6);
         }
-        int k = number(0, 12);
+        int k = number(0, crowded ? 31 : 12);
         int what;
         switch (random.nextInt(5)) {
             case 0:
@@ -182,6 +201,7 @@ final class RandomRunsTest {
                 same("find(" + k + ", " + any + ")", x.find(k, any), plain.find(k, any));
                 break;
             default:
+                calls++;
                 told.append(" mean()");
                 Checks.same("mean()", x.mean(), plain.mean());
                 break;
