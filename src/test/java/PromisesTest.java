@@ -37,6 +37,7 @@ final class PromisesTest {
         at();
         atLongest();
         atCovers();
+        nothingBehindTheText();
         total();
         totalPosition();
         totalDivision();
@@ -683,6 +684,31 @@ final class PromisesTest {
         Checks.remove(y, 123412);
         Checks.same("at(3, 4) under one match", y.at(3, 4), 1);
         Checks.same("at(2, 4) under none", y.at(2, 4), 0);
+    }
+
+    /** 17 to 19: no match ends behind the last letter, whatever letters were there before the text was emptied. */
+    private static void nothingBehindTheText() {
+        int[] codes = {21, 211, 211111, 24, 234, 234123};
+        for (int code : codes) {
+            for (boolean letters : new boolean[] {false, true}) {
+                WordGroups x = Checks.withWords(code);
+                if (letters) {
+                    Checks.type(x, code, code);
+                    Checks.same("at(0, 4) of " + code, x.at(0, 4), 1);
+                    x.clear();
+                }
+                Checks.type(x, 2);
+                Checks.same("at(0, 4) of the beginning of " + code, x.at(0, 4), 0);
+                Checks.same("at(0, 1) of the beginning of " + code, x.at(0, 1), 0);
+                for (int what = 0; what <= 5; what++) {
+                    Checks.same("total(" + what + ") of the beginning of " + code, x.total(what), 0);
+                }
+                Checks.same("word(0, 2) of the beginning of " + code, x.word(0, 2), 0);
+                Checks.same("find(0, 1) of the beginning of " + code, x.find(0, 1), NONE);
+                x.spell(code);
+                Checks.same("find(0, 0) of the beginning of " + code, x.find(0, 0), NONE);
+            }
+        }
     }
 
     /** 18: "Returns the number; BAD if what is out of range." */
